@@ -492,8 +492,8 @@ public final class AnvilHouse {
 
         void standInFurnace(int furnace, int minutes) {
             heats++;
+            // Without a load there is no hardness, and no temper that could count.
             load = NONE;
-            tempered = LEAST_TEMPER;
             for (int minute = 1; minute <= minutes; minute++) {
                 skin += (furnace - skin) / 4;
                 warmCore();
@@ -612,7 +612,7 @@ public final class AnvilHouse {
         /** Quenches it as one of a load. */
         void plunge(int load, boolean inWater) {
             for (int i = 0; i < SECTIONS; i++) {
-                int number = Math.min(9, areas[i] / (inWater ? 20 : 10));
+                int number = Math.min(9, inWater ? areas[i] / 20 : areas[i] / 10);
                 quenched[i] = Math.max(0, steel.hard - steel.drop * number);
             }
             if (inWater && isUneven()) {

@@ -56,10 +56,16 @@ final class Check {
             done.go();
             tell(call + " threw nothing, due is " + due.getSimpleName());
         } catch (RuntimeException e) {
-            if (e.getClass() != due) {
-                tell(call + " threw " + e + ", due is " + due.getSimpleName());
+            if (e.getClass() != due || !isOwn(e)) {
+                tell(call + " threw " + e + ", due is " + due.getSimpleName() + " of the class itself");
             }
         }
+    }
+
+    /** Whether the class threw it itself, and neither the machine nor the library for it. */
+    static boolean isOwn(RuntimeException e) {
+        StackTraceElement[] trace = e.getStackTrace();
+        return trace.length > 0 && trace[0].getClassName().startsWith("AnvilHouse");
     }
 
     /** Behind the calls all that can be seen of the object is as it was ahead of them. */

@@ -9,6 +9,7 @@ public final class DiesTest {
         shapeRefuses();
         sink();
         energyAndCore();
+        energyIsRoundedDown();
         fromSectionZeroOn();
         nearestLowerOne();
         sectionsAreALine();
@@ -102,6 +103,23 @@ public final class DiesTest {
         Check.due("press(0, 0, 50)", 0, x.press(0, 0, 50));
         Check.same("all was moved", " 30 10 10 10 30 18 18 18", Look.areas(x, 0));
         Check.holds("it balances", x.balances(0));
+    }
+
+    private static void energyIsRoundedDown() {
+        AnvilHouse x = forge();
+        shape(x, 30, 10, 18, 18, 18, 18, 18, 18);
+        x.billet(0, 30);
+        x.heat(1, 1008, 60);
+        Check.due("the core", 1000, x.billetIs(1, 1));
+        int area = x.area(1, 0);
+        x.press(1, 0, 1);
+        Check.due("1 is moved at 1000", area + 1, x.area(1, 0));
+        x.billet(0, 30);
+        x.heat(2, 1007, 60);
+        Check.due("the core", 999, x.billetIs(2, 1));
+        area = x.area(2, 0);
+        x.press(2, 0, 1);
+        Check.due("none is moved at 999", area, x.area(2, 0));
     }
 
     private static void fromSectionZeroOn() {

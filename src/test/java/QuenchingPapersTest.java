@@ -20,6 +20,7 @@ public final class QuenchingPapersTest {
         heatEndsHardness();
         hardnessRefuses();
         test();
+        testLooksAtAllSections();
         testRefuses();
         paperOfOneLoad();
         paperNeedsAPart();
@@ -106,6 +107,8 @@ public final class QuenchingPapersTest {
             Check.notNow("quench at 800 and 799", () -> x.quench(3, OIL));
         });
         Check.due("quench at 800", 0, x.quench(1, OIL));
+        warm(x, 1);
+        Check.unchanged(x, "quench", () -> Check.notNow("the first one is cold", () -> x.quench(3, OIL)));
     }
 
     /** Exactly 3 times is no crack; the sections 0 and 7 are no neighbours. */
@@ -269,6 +272,21 @@ public final class QuenchingPapersTest {
         x.temper(0, 200);
         Check.due("test(0), tempered", 43, x.test(0));
         Check.due("a part no more", -1, x.paper(0, 0));
+    }
+
+    /** Each section can be the softest one. */
+    private static void testLooksAtAllSections() {
+        AnvilHouse x = forge(200, 200, 200, 200, 200, 200, 200, 200);
+        warm(x, 0, 1, 2, 3, 4, 5, 6, 7);
+        for (int softest = 0; softest < 8; softest++) {
+            int[] areas = {9, 9, 9, 9, 9, 9, 9, 9};
+            areas[softest] = 20;
+            cutTo(x, softest, areas);
+        }
+        x.quench(255, OIL);
+        for (int softest = 0; softest < 8; softest++) {
+            Check.due("test(" + softest + ")", 52, x.test(softest));
+        }
     }
 
     private static void testRefuses() {
