@@ -414,7 +414,7 @@ public final class AnvilHouse {
 
     /** A billet has a load just as long as it was quenched since its latest heat. */
     private boolean isLoad(int load) {
-        return load >= 0 && load < loads;
+        return load >= 0 && load < testedMelts.length;
     }
 
     private boolean canBeQuenched(int set) {
